@@ -1,0 +1,176 @@
+/** Long runs of calls, right and wrong ones, each answered by the class as by the reference. */
+public final class ReferenceTest {
+
+    private static final Check CHECK = new Check("ReferenceTest");
+    private static final int RUNS = 1500;
+    private static final int CALLS = 512;
+    private static final String[] NAMES = {"atom", "dropAtom", "base", "joint", "less", "form", "ordinal", "seam",
+        "empty", "say", "sayOrdinal", "sayFraction", "said", "hear", "hearSaid", "forget", "fits", "fit", "askWord",
+        "gap", "clash", "example", "dropExamples", "settings", "learn", "askNumber", "baseTold", "numberOf", "cord",
+        "count", "knots", "lost", "shown"};
+    private static final int[] FEW_BASES = {2, 3, 4, 5, 6, 8, 9, 10, 12, 20, 60, 64, 100, 999, 1000, 5000};
+
+    private long seed;
+
+    private ReferenceTest(long seed) {
+        this.seed = seed * 2862933555777941757L + 3037000493L;
+    }
+
+    public static void main(String[] args) {
+        int runs = args.length > 0 ? Integer.parseInt(args[0]) : RUNS;
+        for (int run = 0; run < runs; run++) {
+            new ReferenceTest(run).compare(run);
+        }
+        CHECK.end();
+    }
+
+    private int below(int bound) {
+        seed = seed * 6364136223846793005L + 1442695040888963407L;
+        return (int) ((seed >>> 33) % bound);
+    }
+
+    private int pick(int... from) {
+        return from[below(from.length)];
+    }
+
+    private void compare(int run) {
+        NumeralBabel x = new NumeralBabel();
+        Reference reference = new Reference();
+        // Few words make seams, forms and clashes meet; few grammars make them full.
+        int words = pick(2, 4, 8, 14, 200);
+        int told = run % 3 == 0 ? 0 : 60 + below(60);
+        for (int i = 0; i < CALLS; i++) {
+            int which = i < told ? pick(0, 0, 0, 2, 3, 4, 5, 6, 7) : pickCall();
+            long[] a = arguments(which, words);
+            if (i < told && which == 0 && below(2) == 0) {
+                a[1] = below(12);
+            }
+            String want = Check.outcome(() -> reference.call(which, a));
+            String got = Check.outcome(() -> call(x, which, a));
+            if (!want.equals(got)) {
+                CHECK.judge("run " + run + ", call " + i + " " + NAMES[which] + java.util.Arrays.toString(a), want, got);
+                return;
+            }
+            CHECK.judge(NAMES[which], want, got);
+        }
+    }
+
+    private int pickCall() {
+        int which = below(NAMES.length);
+        return which == 8 && below(4) != 0 ? 9 : which;
+    }
+
+    private int grammar() {
+        return below(40) == 0 ? pick(-1, 4, Integer.MIN_VALUE, Integer.MAX_VALUE) : below(8) == 0 ? below(4) : 0;
+    }
+
+    private int group() {
+        return below(30) == 0 ? pick(-1, 3, Integer.MAX_VALUE) : below(3);
+    }
+
+    private int word(int words) {
+        return below(30) == 0 ? pick(-1, 199, 200, Integer.MIN_VALUE) : below(words);
+    }
+
+    private int wordOrNone(int words) {
+        return below(6) == 0 ? pick(-1, -1, -1, -2) : word(words);
+    }
+
+    private int number() {
+        return below(30) == 0 ? pick(-1, 10000, Integer.MIN_VALUE)
+                : below(4) == 0 ? below(10000) : below(3) == 0 ? below(1000) : below(130);
+    }
+
+    private int place() {
+        return below(20) == 0 ? pick(-1, 5, Integer.MAX_VALUE) : below(below(3) + 1);
+    }
+
+    private int bound() {
+        return below(20) == 0 ? pick(-1, 1000, Integer.MAX_VALUE) : below(4) == 0 ? pick(0, 1, 999) : below(300);
+    }
+
+    private long[] arguments(int which, int words) {
+        long g = grammar();
+        switch (which) {
+            case 0: return row(g, number(), word(words));
+            case 1: case 10: return row(g, number());
+            case 2: return row(g, below(20) == 0 ? pick(0, 1, 5001) : below(3) == 0 ? 2 + below(4999) : pick(FEW_BASES),
+                    word(words), below(20) == 0 ? pick(0, 1, 100) : pick(1, 3, 9, 19, 50, 99),
+                    below(20) == 0 ? pick(-1, 16) : below(16));
+            case 3: return row(g, place(), wordOrNone(words));
+            case 4: return row(g, place(), below(15) == 0 ? pick(-1, 10) : below(10), word(words));
+            case 5: return row(g, word(words), below(20) == 0 ? pick(-1, 4) : below(4), word(words));
+            case 6: return row(g, wordOrNone(words));
+            case 7: return row(g, word(words), word(words), word(words));
+            case 8: return row(g);
+            case 9: return row(g, number(), group());
+            case 11: return row(g, number(), below(20) == 0 ? 0 : number(), group());
+            case 12: return row(below(10) == 0 ? pick(-1, 19, 20, Integer.MIN_VALUE) : below(6));
+            case 13: return row(below(2) == 0 ? -1 : wordOrNone(words));
+            case 16: case 18: case 20: return row(g, group(), bound());
+            case 17: return row(g, group(), bound(), below(15) == 0 ? -1 : below(20));
+            case 19: return row(g, bound());
+            case 21: return row(number());
+            case 23: case 24: return row(g, place(), word(words));
+            case 25: return row(g, place(), word(words), below(15) == 0 ? pick(-1, 100) : below(100));
+            case 26: return row(g, place(), below(15) == 0 ? pick(-1, 7) : below(7));
+            case 27: return row(g, word(words));
+            case 28: return row(below(15) == 0 ? pick(-1, 6) : below(6), below(10) == 0 ? pick(1, 61) : 2 + below(59));
+            case 29: return row(count());
+            case 30: return row(below(15) == 0 ? pick(-1, 6) : below(6));
+            default: return row();
+        }
+    }
+
+    private long count() {
+        long far = (long) below(1 << 30) << 33 | below(1 << 30);
+        return below(4) == 0 ? (below(2) == 0 ? Long.MAX_VALUE : Long.MIN_VALUE) : below(2) == 0 ? far : below(4000) - 2000;
+    }
+
+    private static long[] row(long... told) {
+        return java.util.Arrays.copyOf(told, 5);
+    }
+
+    private static long call(NumeralBabel x, int which, long[] a) {
+        int b = (int) a[0];
+        int c = (int) a[1];
+        int d = (int) a[2];
+        int e = (int) a[3];
+        int f = (int) a[4];
+        switch (which) {
+            case 0: return x.atom(b, c, d);
+            case 1: return x.dropAtom(b, c);
+            case 2: return x.base(b, c, d, e, f);
+            case 3: return x.joint(b, c, d);
+            case 4: return x.less(b, c, d, e);
+            case 5: return x.form(b, c, d, e);
+            case 6: return x.ordinal(b, c);
+            case 7: return x.seam(b, c, d, e);
+            case 8: return x.empty(b);
+            case 9: return x.say(b, c, d);
+            case 10: return x.sayOrdinal(b, c);
+            case 11: return x.sayFraction(b, c, d, e);
+            case 12: return x.said(b);
+            case 13: return x.hear(b);
+            case 14: return x.hearSaid();
+            case 15: return x.forget();
+            case 16: return x.fits(b, c, d);
+            case 17: return x.fit(b, c, d, e);
+            case 18: return x.askWord(b, c, d);
+            case 19: return x.gap(b, c);
+            case 20: return x.clash(b, c, d);
+            case 21: return x.example(b);
+            case 22: return x.dropExamples();
+            case 23: return x.settings(b, c, d);
+            case 24: return x.learn(b, c, d);
+            case 25: return x.askNumber(b, c, d, e);
+            case 26: return x.baseTold(b, c, d);
+            case 27: return x.numberOf(b, c);
+            case 28: return x.cord(b, c);
+            case 29: return x.count(a[0]);
+            case 30: return x.knots(b);
+            case 31: return x.lost();
+            default: return x.shown();
+        }
+    }
+}
