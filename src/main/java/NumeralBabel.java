@@ -17,7 +17,8 @@ public final class NumeralBabel {
     private static final int LONGEST = 20;
 
     private static final int ATOMS = 40;
-    private static final int HALF_OF_ATOMS = 32;
+    // Steps of 32, 16, 8, 4, 2 and 1 reach any count of atoms up to 63.
+    private static final int FIRST_STEP = 32;
     private static final int BASES = 5;
     private static final int FORMS = 30;
     private static final int SEAMS = 6;
@@ -241,7 +242,9 @@ public final class NumeralBabel {
         Grammar g = grammarAt(grammar);
         needClass(group);
         needRange(bound, 0, TOP_HEARD_BOUND);
-        needRange(place, 0, Integer.MAX_VALUE);
+        if (place < 0) {
+            throw new IllegalArgumentException("place below 0");
+        }
         int found = 0;
         for (int number = 0; number <= bound; number++) {
             if (isHeard(g, number, group)) {
@@ -482,9 +485,9 @@ public final class NumeralBabel {
 
     private int placeOfLeastTally() {
         int best = NONE;
-        int fewest = Integer.MAX_VALUE;
+        int fewest = 0;
         for (int place = 0; place < heard.size; place++) {
-            if (heard.wordAt(place) == NONE && greatestTallies[place] < fewest) {
+            if (heard.wordAt(place) == NONE && (best == NONE || greatestTallies[place] < fewest)) {
                 fewest = greatestTallies[place];
                 best = place;
             }
@@ -696,7 +699,7 @@ public final class NumeralBabel {
 
         private int countBelow(int number) {
             int below = 0;
-            for (int step = HALF_OF_ATOMS; step > 0; step /= 2) {
+            for (int step = FIRST_STEP; step > 0; step /= 2) {
                 int reached = below + step;
                 if (reached <= size && numbers[reached - 1] < number) {
                     below = reached;

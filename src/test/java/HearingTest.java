@@ -15,6 +15,7 @@ public final class HearingTest {
         gap();
         clash();
         clashLongSayings();
+        clashOfMarks();
         CHECK.end();
     }
 
@@ -94,6 +95,11 @@ public final class HearingTest {
         CHECK.due("not in another grammar", 0, x.fits(1, 0, 999));
         Check.hear(x, -1, -1, 33);
         CHECK.due("in class 1 then", 8, x.fits(0, 1, 999));
+        x.atom(0, 0, 0);
+        Check.hear(x, 0);
+        CHECK.due("0 itself", 1, x.fits(0, 0, 0));
+        Check.hear(x, -1);
+        CHECK.due("0 among others", 11, x.fits(0, 0, 999));
         x.atom(0, 999, 77);
         Check.hear(x, 77);
         CHECK.due("999 at the bound 999", 1, x.fits(0, 0, 999));
@@ -122,6 +128,11 @@ public final class HearingTest {
         CHECK.due("the next", 33, x.fit(0, 0, 999, 1));
         CHECK.due("the last", 93, x.fit(0, 0, 999, 7));
         CHECK.due("beyond the last", -1, x.fit(0, 0, 999, 8));
+        x.atom(1, 0, 5);
+        Check.hear(x, 5);
+        CHECK.due("0 itself", 0, x.fit(1, 0, 0, 0));
+        CHECK.due("behind 0 none", -1, x.fit(1, 0, 0, 1));
+        Check.hear(x, -1, -1, 3);
         CHECK.due("far beyond", -1, x.fit(0, 0, 999, Integer.MAX_VALUE));
         CHECK.due("up to 32", -1, x.fit(0, 0, 32, 1));
         CHECK.due("up to 33", 33, x.fit(0, 0, 33, 1));
@@ -183,6 +194,22 @@ public final class HearingTest {
         CHECK.due("up to 1 one fits", -1, x.askWord(0, 0, 1));
         CHECK.due("up to 2 two fit", 0, x.askWord(0, 0, 2));
         CHECK.due("asked again", 0, x.askWord(0, 0, 2));
+        x.atom(0, 0, 0);
+        CHECK.due("0 and 1 fit", 0, x.askWord(0, 0, 1));
+        NumeralBabel zeros = new NumeralBabel();
+        Check.tens(zeros, 0, 0);
+        zeros.form(0, 10, 0, 0);
+        Check.hear(zeros, -1, -1);
+        // 20 to 90 have the word 0 at the place 1, 11 to 19 the word 10 at the place 0.
+        CHECK.due("the word 0 is counted", 1, zeros.askWord(0, 0, 99));
+        CHECK.due("up to 12 the word 10 alone", 1, zeros.askWord(0, 0, 12));
+        CHECK.due("up to 60, nine and five", 1, zeros.askWord(0, 0, 60));
+        zeros.empty(0);
+        zeros.atom(0, 1, 1);
+        zeros.atom(0, 2, 2);
+        zeros.base(0, 3, 0, 99, 1);
+        // 3: 1 0; 6: 2 0.
+        CHECK.due("only the word 0 behind", 0, zeros.askWord(0, 0, 8));
     }
 
     private static void gap() {
@@ -259,5 +286,24 @@ public final class HearingTest {
         y.seam(0, 9, 11, 10);
         CHECK.due("900 is said like 10", 900, y.clash(0, 0, 999));
         CHECK.due("up to 899 none", -1, y.clash(0, 0, 899));
+    }
+
+    /** 74 and 795 have other words at all seven places, but sums of them that are alike by wrap-around. */
+    private static void clashOfMarks() {
+        CHECK.promise(22);
+        NumeralBabel x = new NumeralBabel();
+        int[][] atoms = {{1, 182}, {2, 105}, {3, 19}, {4, 55}, {5, 50}, {7, 191}};
+        for (int[] atom : atoms) {
+            x.atom(0, atom[0], atom[1]);
+        }
+        int[][] bases = {{20, 78, 124}, {5, 138, 21}, {100, 157, 127}, {90, 88, 153}};
+        for (int[] base : bases) {
+            x.joint(0, x.base(0, base[0], base[1], 99, base[0] == 90 ? 1 : 0), base[2]);
+        }
+        CHECK.says(x, 0, 74, 0, "19 78 124 105 138 21 55");
+        CHECK.says(x, 0, 795, 0, "191 157 127 182 88 153 50");
+        CHECK.due("they do not clash", -1, x.clash(0, 0, 999));
+        x.atom(0, 795, 105);
+        CHECK.due("but 795 and 2 do", 795, x.clash(0, 0, 999));
     }
 }

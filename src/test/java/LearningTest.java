@@ -32,6 +32,8 @@ public final class LearningTest {
         Check.hear(x, 1, -1, 2);
         CHECK.refused("one not heard", Check.STATE, () -> x.example(5));
         CHECK.refused("number before that too", Check.ARGUMENT, () -> x.example(-1));
+        Check.hear(x, -1, 2);
+        CHECK.refused("the first not heard", Check.STATE, () -> x.example(5));
         CHECK.due("none was added", 0, x.dropExamples());
         Check.hear(x, 2, 10);
         CHECK.due("the first", 1, x.example(20));

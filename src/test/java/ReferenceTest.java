@@ -1,8 +1,12 @@
+import java.util.ArrayDeque;
+import java.util.Arrays;
+import java.util.Deque;
+
 /** Long runs of calls, right and wrong ones, each answered by the class as by the reference. */
 public final class ReferenceTest {
 
     private static final Check CHECK = new Check("ReferenceTest");
-    private static final int RUNS = 1500;
+    private static final int RUNS = 400;
     private static final int CALLS = 512;
     private static final String[] NAMES = {"atom", "dropAtom", "base", "joint", "less", "form", "ordinal", "seam",
         "empty", "say", "sayOrdinal", "sayFraction", "said", "hear", "hearSaid", "forget", "fits", "fit", "askWord",
@@ -11,6 +15,7 @@ public final class ReferenceTest {
     private static final int[] FEW_BASES = {2, 3, 4, 5, 6, 8, 9, 10, 12, 20, 60, 64, 100, 999, 1000, 5000};
 
     private long seed;
+    private final Deque<long[]> scene = new ArrayDeque<>();
 
     private ReferenceTest(long seed) {
         this.seed = seed * 2862933555777941757L + 3037000493L;
@@ -38,26 +43,98 @@ public final class ReferenceTest {
         Reference reference = new Reference();
         // Few words make seams, forms and clashes meet; few grammars make them full.
         int words = pick(2, 4, 8, 14, 200);
-        int told = run % 3 == 0 ? 0 : 60 + below(60);
+        int told = run % 5 == 0 ? 0 : 20 + below(100);
+        if (run % 2 == 0) {
+            grammarScene(words);
+        }
         for (int i = 0; i < CALLS; i++) {
-            int which = i < told ? pick(0, 0, 0, 2, 3, 4, 5, 6, 7) : pickCall();
-            long[] a = arguments(which, words);
-            if (i < told && which == 0 && below(2) == 0) {
-                a[1] = below(12);
+            if (scene.isEmpty()) {
+                setScene(i < told, words);
             }
+            long[] a = scene.remove();
+            int which = (int) a[5];
             String want = Check.outcome(() -> reference.call(which, a));
             String got = Check.outcome(() -> call(x, which, a));
             if (!want.equals(got)) {
-                CHECK.judge("run " + run + ", call " + i + " " + NAMES[which] + java.util.Arrays.toString(a), want, got);
+                CHECK.judge("run " + run + ", call " + i + " " + NAMES[which] + Arrays.toString(a), want, got);
                 return;
             }
             CHECK.judge(NAMES[which], want, got);
         }
     }
 
-    private int pickCall() {
-        int which = below(NAMES.length);
-        return which == 8 && below(4) != 0 ? 9 : which;
+    private void setScene(boolean telling, int words) {
+        int kind = below(8);
+        if (telling) {
+            int which = pick(0, 0, 0, 2, 3, 4, 5, 6, 7);
+            long[] a = arguments(which, words);
+            if (which == 0 && below(2) == 0) {
+                a[1] = below(12);
+            }
+            play(which, a);
+        } else if (kind == 0) {
+            hearScene(words);
+        } else if (kind == 1) {
+            learnScene(words);
+        } else {
+            int which = below(NAMES.length);
+            boolean spared = which == 8 && below(8) != 0;
+            play(spared ? 9 : which, arguments(spared ? 9 : which, words));
+        }
+    }
+
+    /** A language that names most numbers. */
+    private void grammarScene(int words) {
+        int base = pick(2, 3, 5, 10, 12, 20);
+        for (int number = below(2); number < base; number++) {
+            play(0, row(0, number, below(3) == 0 ? below(words) : number));
+        }
+        play(2, row(0, base, 20, 99, below(16)));
+        if (below(2) == 0) {
+            play(2, row(0, base * base, 21, pick(9, 99), below(16)));
+            play(3, row(0, 1, below(words)));
+        }
+        if (below(2) == 0) {
+            play(3, row(0, 0, 22));
+            play(4, row(0, 0, below(10), 23));
+        }
+    }
+
+    private void play(int which, long[] a) {
+        long[] call = Arrays.copyOf(a, 6);
+        call[5] = which;
+        scene.add(call);
+    }
+
+    /** Some words heard and some not, and all that is asked of them. */
+    private void hearScene(int words) {
+        play(15, row());
+        int length = 1 + below(below(7) + 1);
+        for (int i = 0; i < length; i++) {
+            play(13, row(below(3) != 0 ? -1 : below(words)));
+        }
+        int group = below(3);
+        play(16, row(0, group, 999));
+        play(17, row(0, group, 999, below(12)));
+        play(18, row(0, group, pick(99, 300, 999)));
+    }
+
+    /** An example that the grammar itself says, seldom a wrong one, and all that is learnt of it. */
+    private void learnScene(int words) {
+        long number = below(3) == 0 ? below(9999) : below(130);
+        play(9, row(0, number, 0));
+        play(14, row());
+        play(21, row(below(12) == 0 ? below(100) : number));
+        int place = below(3);
+        int joint = below(words);
+        play(23, row(0, place, joint));
+        play(25, row(0, place, joint, 99));
+        if (below(3) == 0) {
+            play(24, row(0, place, joint));
+        }
+        if (below(4) == 0) {
+            play(22, row());
+        }
     }
 
     private int grammar() {
@@ -128,7 +205,7 @@ public final class ReferenceTest {
     }
 
     private static long[] row(long... told) {
-        return java.util.Arrays.copyOf(told, 5);
+        return Arrays.copyOf(told, 5);
     }
 
     private static long call(NumeralBabel x, int which, long[] a) {
