@@ -225,9 +225,7 @@ public final class NumeralBabel {
     }
 
     public int fits(int grammar, int group, int bound) throws IndexOutOfBoundsException, IllegalArgumentException {
-        Grammar g = grammarAt(grammar);
-        needClass(group);
-        needRange(bound, 0, TOP_HEARD_BOUND);
+        Grammar g = grammarToHear(grammar, group, bound);
         int found = 0;
         for (int number = 0; number <= bound; number++) {
             if (isHeard(g, number, group)) {
@@ -239,9 +237,7 @@ public final class NumeralBabel {
 
     public int fit(int grammar, int group, int bound, int place)
             throws IndexOutOfBoundsException, IllegalArgumentException {
-        Grammar g = grammarAt(grammar);
-        needClass(group);
-        needRange(bound, 0, TOP_HEARD_BOUND);
+        Grammar g = grammarToHear(grammar, group, bound);
         if (place < 0) {
             throw new IllegalArgumentException("place below 0");
         }
@@ -258,9 +254,7 @@ public final class NumeralBabel {
     }
 
     public int askWord(int grammar, int group, int bound) throws IndexOutOfBoundsException, IllegalArgumentException {
-        Grammar g = grammarAt(grammar);
-        needClass(group);
-        needRange(bound, 0, TOP_HEARD_BOUND);
+        Grammar g = grammarToHear(grammar, group, bound);
         Arrays.fill(tallies, 0);
         Arrays.fill(greatestTallies, 0);
         int found = 0;
@@ -286,9 +280,7 @@ public final class NumeralBabel {
     }
 
     public int clash(int grammar, int group, int bound) throws IndexOutOfBoundsException, IllegalArgumentException {
-        Grammar g = grammarAt(grammar);
-        needClass(group);
-        needRange(bound, 0, TOP_HEARD_BOUND);
+        Grammar g = grammarToHear(grammar, group, bound);
         lookup.clear();
         for (int number = 0; number <= bound; number++) {
             if (g.speak(number, group, spoken)) {
@@ -426,6 +418,13 @@ public final class NumeralBabel {
             throw new IndexOutOfBoundsException("no such grammar");
         }
         return grammars[grammar];
+    }
+
+    private Grammar grammarToHear(int grammar, int group, int bound) {
+        Grammar g = grammarAt(grammar);
+        needClass(group);
+        needRange(bound, 0, TOP_HEARD_BOUND);
+        return g;
     }
 
     private static Base baseAt(Grammar g, int place) {
