@@ -22,6 +22,14 @@ final class Check {
         promise = "promise " + number;
     }
 
+    /**
+     * The document's own words that the next answers are judged by: of a promise, or with 0 of what stands ahead of
+     * the promises. SentencesTest reads these calls, so the words stand in them as they are.
+     */
+    void sentence(int number, String words) {
+        promise = (number == 0 ? "the document" : "promise " + number) + ", '" + words + "'";
+    }
+
     void due(String what, long want, long got) {
         judge(what, Long.toString(want), Long.toString(got));
     }

@@ -8,10 +8,6 @@ public final class ReferenceTest {
     private static final Check CHECK = new Check("ReferenceTest");
     private static final int RUNS = 400;
     private static final int CALLS = 512;
-    private static final String[] NAMES = {"atom", "dropAtom", "base", "joint", "less", "form", "ordinal", "seam",
-        "empty", "say", "sayOrdinal", "sayFraction", "said", "hear", "hearSaid", "forget", "fits", "fit", "askWord",
-        "gap", "clash", "example", "dropExamples", "settings", "learn", "askNumber", "baseTold", "numberOf", "cord",
-        "count", "knots", "lost", "shown"};
     private static final int[] FEW_BASES = {2, 3, 4, 5, 6, 8, 9, 10, 12, 20, 60, 64, 100, 999, 1000, 5000};
 
     private long seed;
@@ -54,12 +50,12 @@ public final class ReferenceTest {
             long[] a = scene.remove();
             int which = (int) a[5];
             String want = Check.outcome(() -> reference.call(which, a));
-            String got = Check.outcome(() -> call(x, which, a));
+            String got = Check.outcome(() -> Calls.call(x, which, a));
             if (!want.equals(got)) {
-                CHECK.judge("run " + run + ", call " + i + " " + NAMES[which] + Arrays.toString(a), want, got);
+                CHECK.judge("run " + run + ", call " + i + " " + Calls.NAMES[which] + Arrays.toString(a), want, got);
                 return;
             }
-            CHECK.judge(NAMES[which], want, got);
+            CHECK.judge(Calls.NAMES[which], want, got);
         }
     }
 
@@ -77,7 +73,7 @@ public final class ReferenceTest {
         } else if (kind == 1) {
             learnScene(words);
         } else {
-            int which = below(NAMES.length);
+            int which = below(Calls.NAMES.length);
             boolean spared = which == 8 && below(8) != 0;
             play(spared ? 9 : which, arguments(spared ? 9 : which, words));
         }
@@ -206,48 +202,5 @@ public final class ReferenceTest {
 
     private static long[] row(long... told) {
         return Arrays.copyOf(told, 5);
-    }
-
-    private static long call(NumeralBabel x, int which, long[] a) {
-        int b = (int) a[0];
-        int c = (int) a[1];
-        int d = (int) a[2];
-        int e = (int) a[3];
-        int f = (int) a[4];
-        switch (which) {
-            case 0: return x.atom(b, c, d);
-            case 1: return x.dropAtom(b, c);
-            case 2: return x.base(b, c, d, e, f);
-            case 3: return x.joint(b, c, d);
-            case 4: return x.less(b, c, d, e);
-            case 5: return x.form(b, c, d, e);
-            case 6: return x.ordinal(b, c);
-            case 7: return x.seam(b, c, d, e);
-            case 8: return x.empty(b);
-            case 9: return x.say(b, c, d);
-            case 10: return x.sayOrdinal(b, c);
-            case 11: return x.sayFraction(b, c, d, e);
-            case 12: return x.said(b);
-            case 13: return x.hear(b);
-            case 14: return x.hearSaid();
-            case 15: return x.forget();
-            case 16: return x.fits(b, c, d);
-            case 17: return x.fit(b, c, d, e);
-            case 18: return x.askWord(b, c, d);
-            case 19: return x.gap(b, c);
-            case 20: return x.clash(b, c, d);
-            case 21: return x.example(b);
-            case 22: return x.dropExamples();
-            case 23: return x.settings(b, c, d);
-            case 24: return x.learn(b, c, d);
-            case 25: return x.askNumber(b, c, d, e);
-            case 26: return x.baseTold(b, c, d);
-            case 27: return x.numberOf(b, c);
-            case 28: return x.cord(b, c);
-            case 29: return x.count(a[0]);
-            case 30: return x.knots(b);
-            case 31: return x.lost();
-            default: return x.shown();
-        }
     }
 }
